@@ -33,7 +33,10 @@ public final class RingVillage {
     private static final int ALL_ACTS = 30;
     private static final int ALL_NUMBERS = 8;
     private static final int ACT_SIZE = 1 + ALL_NUMBERS;
-    private static final int ACT_WHO = 3;
+    private static final int ACT_KIND = 0;
+    private static final int ACT_FIRST = 1;
+    private static final int ACT_SECOND = 2;
+    private static final int ACT_THIRD = 3;
 
     // Of a ring: as ring() tells it by what, then who is in it.
     private static final int RING_MANY = 0;
@@ -713,9 +716,9 @@ public final class RingVillage {
                 return;
             }
             int first = acts * ACT_SIZE;
-            parts[first] = kind;
+            parts[first + ACT_KIND] = kind;
             for (int i = 0; i < ALL_NUMBERS; i++) {
-                parts[first + 1 + i] = i < many ? numbers[i] : NONE;
+                parts[first + ACT_FIRST + i] = i < many ? numbers[i] : NONE;
             }
             acts++;
         }
@@ -804,15 +807,38 @@ public final class RingVillage {
         private static final int TOKEN_NONE = 4;
         private static final int MOST_DIGITS = 2;
 
-        // By verb: how many numbers are due, then what each may be, four a verb (a ring's further ones are as its fourth).
+        // By verb, in the order of their numbers: how many numbers are due.
         private static final int[] DUE = {3, 3, 4, 1, 1, 0, 1, 3, 1, 2, 2, 1, 4};
+        // What each of these may be, four a verb; a ring's further ones are as its fourth.
         private static final int LIMITS = 4;
         private static final int[] LOW = {
-            0, 0, 1, 0, 0, 0, 1, 0, 1, 0, 0, 0, 0, 0, 0, 0, 0, 0, 0, 0, 0, 0, 0, 0,
-            2, 0, 0, 0, 0, 0, 0, 0, 0, 0, 0, 0, 0, 0, 0, 0, 0, 0, 0, 0, 0, 0, 0, 0, 0, 0, 1, 0};
+            0, 0, 1, 0,
+            0, 0, 1, 0,
+            1, 0, 0, 0,
+            0, 0, 0, 0,
+            0, 0, 0, 0,
+            0, 0, 0, 0,
+            2, 0, 0, 0,
+            0, 0, 0, 0,
+            0, 0, 0, 0,
+            0, 0, 0, 0,
+            0, 0, 0, 0,
+            0, 0, 0, 0,
+            0, 0, 1, 0};
         private static final int[] HIGH = {
-            8, 8, 99, 0, 8, 8, 99, 0, 99, 99, 8, 8, 29, 0, 0, 0, 8, 0, 0, 0, 0, 0, 0, 0,
-            9, 0, 0, 0, 8, 8, 99, 0, 99, 0, 0, 0, 8, 99, 0, 0, 8, 100, 0, 0, 9, 0, 0, 0, 8, 8, 99, 99};
+            8, 8, 99, 0,
+            8, 8, 99, 0,
+            99, 99, 8, 8,
+            29, 0, 0, 0,
+            8, 0, 0, 0,
+            0, 0, 0, 0,
+            9, 0, 0, 0,
+            8, 8, 99, 0,
+            99, 0, 0, 0,
+            8, 99, 0, 0,
+            8, 100, 0, 0,
+            9, 0, 0, 0,
+            8, 8, 99, 99};
         private static final int RING_FIRST = 2;
 
         private final Village village = new Village();
@@ -863,7 +889,7 @@ public final class RingVillage {
             if (verb == NONE) {
                 return false;
             }
-            if (verb == WANT && village.wants >= ALL_WANTS || verb <= MONTH && row.acts >= ALL_ACTS) {
+            if (isOneTooMany(verb)) {
                 note(FAULT_MANY, place);
             }
             nextToken();
@@ -887,6 +913,17 @@ public final class RingVillage {
                 keepSentence(verb, many);
             }
             return true;
+        }
+
+        private boolean isOneTooMany(int verb) {
+            if (verb == WANT) {
+                return village.wants >= ALL_WANTS;
+            }
+            return isAct(verb) && row.acts >= ALL_ACTS;
+        }
+
+        private static boolean isAct(int verb) {
+            return verb <= MONTH;
         }
 
         private void judge(int verb, int i) {
@@ -915,7 +952,7 @@ public final class RingVillage {
         }
 
         private void keepSentence(int verb, int many) {
-            if (verb <= MONTH) {
+            if (isAct(verb)) {
                 row.addAct(verb, numbers, many);
                 return;
             }
@@ -1076,10 +1113,10 @@ public final class RingVillage {
 
         /** False, and nothing is changed, if the act can't be. */
         boolean play(Row row, int act) {
-            int first = row.actPart(act, 1);
-            int second = row.actPart(act, 2);
-            int third = row.actPart(act, 3);
-            switch (row.actPart(act, 0)) {
+            int first = row.actPart(act, ACT_FIRST);
+            int second = row.actPart(act, ACT_SECOND);
+            int third = row.actPart(act, ACT_THIRD);
+            switch (row.actPart(act, ACT_KIND)) {
                 case OWE: return beginDebt(first, second, third);
                 case PAY: return payDebt(first, second, third);
                 case RING: return beginToldRing(row, act);
@@ -1108,17 +1145,17 @@ public final class RingVillage {
         private boolean beginToldRing(Row row, int act) {
             int many = 0;
             for (int i = 0; i < MOST_IN_RING; i++) {
-                int p = row.actPart(act, ACT_WHO + i);
+                int p = row.actPart(act, ACT_THIRD + i);
                 if (p != NONE) {
                     circle[many] = p;
                     many++;
                 }
             }
-            int n = row.actPart(act, RING_N);
+            int n = row.actPart(act, ACT_FIRST);
             if (!fits(circle, many, n)) {
                 return false;
             }
-            addRing(circle, many, n, row.actPart(act, RING_TILL));
+            addRing(circle, many, n, row.actPart(act, ACT_SECOND));
             return true;
         }
 
