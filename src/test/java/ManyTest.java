@@ -17,6 +17,8 @@ public final class ManyTest {
         gaps();
         tightAndOpens();
         lentAndWeak();
+        waysThatGiveWay();
+        ninePeople();
         noSuchStates();
         T.close();
     }
@@ -183,6 +185,39 @@ public final class ManyTest {
         RingVillage z = Telling.with("people 2;", "");
         T.due("no room at all", z.weak(0, NONE, 0, false), 0);
         T.due("no room at all", z.weak(0, NONE, 0, true), 1);
+    }
+
+    private static void waysThatGiveWay() {
+        // The first short way from 0 to 5, by 1 and 3, bars 2; it has to turn off to 4 and 6.
+        String village = "people 7;word 1 0 1;word 3 1 1;word 5 3 1;word 2 0 1;word 3 2 1;word 4 1 1;word 6 4 1;word 5 6 1;"
+            + "word 0 5 2;want 5 0 2 3;";
+        RingVillage x = Telling.with(village, "");
+        T.due("lent", x.lent(0, NONE, 0, 0, 5), 2);
+        T.due("much", x.much(0, NONE, 0, 0), 2);
+        T.due("had", x.had(0, NONE, 0, 1, false), true);
+        T.due("need", x.need(0, NONE, 0, 1), 0);
+        T.due("most", x.most(0, NONE, 0, false, true), 3);
+        RingVillage y = Telling.with(village + "word 6 4 0;", "");
+        T.due("need", y.need(0, NONE, 0, 1), 1);
+        T.due("tight where it lacks", y.tight(0, NONE, 0, 4, 6), 3);
+        T.due("opens", y.opens(0, NONE, 0, false), 0);
+        T.due("opens, second", y.opens(0, NONE, 0, true), 5);
+    }
+
+    private static void ninePeople() {
+        RingVillage x = Telling.with("people 9;word 8 7 3;word 6 8 2;word 7 6 3;word 0 8 1;word 7 0 1;want 7 8 3 4;want 8 6 2 1;want 6 8 1 9;", "");
+        T.due("had", x.had(0, NONE, 0, 3, false), true);
+        T.due("need", x.need(0, NONE, 0, 3), 0);
+        T.due("one for 6 to 8, one for 8 to give away what he is owed", x.need(0, NONE, 0, 7), 2);
+        T.due("most", x.most(0, NONE, 0, false, false), 3);
+        T.due("worth of 0", x.worth(0, NONE, 0, 0), 4);
+        T.due("worth of 8", x.worth(0, NONE, 0, 8), 5);
+        T.due("the second and the third are had then", x.tight(0, NONE, 0, 6, 8), 5);
+        T.due("opens", x.opens(0, NONE, 0, false), 6);
+        T.due("opens, second", x.opens(0, NONE, 0, true), 8);
+        T.due("lent", x.lent(0, NONE, 0, 7, 8), 3);
+        T.due("lent", x.lent(0, NONE, 0, 8, 7), 3);
+        T.due("least", x.least(0), 3);
     }
 
     private static void noSuchStates() {

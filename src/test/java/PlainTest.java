@@ -7,7 +7,7 @@ public final class PlainTest {
     private static final Telling T = new Telling("PlainTest");
 
     public static void main(String[] args) {
-        int many = args.length > 0 ? Integer.parseInt(args[0]) : 150;
+        int many = args.length > 0 ? Integer.parseInt(args[0]) : 240;
         int first = args.length > 1 ? Integer.parseInt(args[1]) : 0;
         for (int seed = first; seed < first + many; seed++) {
             new PlainTest(seed).run();

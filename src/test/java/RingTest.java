@@ -143,6 +143,7 @@ public final class RingTest {
         T.due("the other does not owe", x.early(0, 0, 1, 1, 0, 1), NONE);
         T.due("oneself", x.early(0, 0, 1, 0, 0, 1), NONE);
         T.due("much 0", x.early(0, 0, 1, 0, 1, 0), NONE);
+        T.due("much 99", Telling.with("all 99;", "owe 0 1 99;").early(0, 0, 1, 0, 1, 99), 2);
         T.due("much 100", x.early(0, 0, 1, 0, 1, 100), NONE);
         T.due("much -1", x.early(0, 0, 1, 0, 1, -1), NONE);
         T.due("none of people", x.early(0, 0, 1, 0, 5, 1), NONE);

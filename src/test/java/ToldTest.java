@@ -110,6 +110,7 @@ public final class ToldTest {
         T.due("fee of 5", x.village(0, 15), NONE);
         T.due("what 19", x.village(0, 19), NONE);
         T.due("risk of 3", x.village(0, 23), 99);
+        T.due("risk of 0", x.village(0, 20), 0);
         T.due("risk of 4", x.village(0, 24), 0);
         T.due("risk of 5", x.village(0, 25), NONE);
         T.due("no such village", x.village(1, 0), NONE);
@@ -184,6 +185,8 @@ public final class ToldTest {
         faulty(0, "people x;", 1, 7);
         faulty(0, "peoples 3;", 1, 0);
         faulty(0, "  peopl 3;", 1, 2);
+        faulty(0, "peoplez 3;", 1, 0);
+        faulty(0, "peoplea 3;", 1, 0);
         faulty(0, "People 3;", 1, 0);
         faulty(0, "pEople 3;", 1, 0);
         faulty(0, "people 003;", 1, 7);
@@ -311,5 +314,25 @@ public final class ToldTest {
         T.due("image(1) anew", x.image(1), true);
         T.due("again(3)", x.again(3), false);
         T.due("again(-1)", x.again(-1), false);
+        fullImage();
+    }
+
+    private static void fullImage() {
+        RingVillage x = new RingVillage();
+        Telling.tell(x, 0, NONE, "people 2;");
+        Telling.tell(x, 0, NONE, "people 3;");
+        for (int i = 1; i <= 3; i++) {
+            Telling.tell(x, 1, NONE, "month;".repeat(i));
+        }
+        x.image(2);
+        for (int i = 0; i < 3; i++) {
+            Telling.tell(x, 0, i, "people 9;");
+            Telling.tell(x, 1, i, "");
+        }
+        T.due("a full image", x.again(2), true);
+        T.due("the last village", x.village(1, 0), 3);
+        for (int i = 0; i < 3; i++) {
+            T.due("row " + i, x.act(i, NONE, 0), i + 1);
+        }
     }
 }
