@@ -214,22 +214,22 @@ public final class StateTest {
     }
 
     private static void nothingStaysOfOtherStates() {
-        RingVillage x = Telling.with("all 9;risk 1 99;", "ring 1 0 0 1;ring 2 0 1 2;owe 1 2 2;month;");
+        RingVillage x = Telling.with("all 9;risk 1 99;", "ring 1 0 0 1 3;ring 2 0 1 2;owe 1 2 2;month;");
         Telling.tell(x, 1, NONE, "strike 0;");
-        Telling.tell(x, 1, NONE, "owe 0 1 1;owe 1 2 2;fail 0;");
+        Telling.tell(x, 1, NONE, "owe 0 1 1;owe 1 3 2;fail 0;");
         Telling.tell(x, 0, NONE, "all 9;");
         for (int n = 2; n >= 0; n--) {
             T.due("two rings", x.state(0, 0, 3, 2), 3);
             T.due("falls with " + n + " rings", x.falls(0, 0, n, 1, false), (1 << n) - 1);
             T.due("two rings", x.state(0, 0, 3, 2), 3);
-            T.due("hit with " + n + " rings", x.falls(0, 0, n, 1, true), n == 0 ? 0 : n == 1 ? 1 : 5);
+            T.due("hit with " + n + " rings", x.falls(0, 0, n, 1, true), n == 0 ? 0 : n == 1 ? 9 : 13);
             T.due("two rings", x.state(0, 0, 3, 2), 3);
             T.due("roll with " + n + " rings", x.roll(0, 0, n, 1), (1 << n) - 1);
         }
         T.due("two rings", x.state(0, 0, 3, 2), 3);
         T.due("there is no ring to strike", x.stop(0, 1), 0);
         T.due("two rings", x.state(0, 0, 3, 2), 3);
-        T.due("there is no ring that falls", x.owes(0, 2, 3, 1, 2), 2);
+        T.due("there is no ring that falls", x.owes(0, 2, 3, 1, 3), 2);
         T.due("there is no ring to end", x.state(0, 2, 2, 3), 3);
         RingVillage y = Telling.with("people 2;all 9;", "month;".repeat(30));
         T.due("thirty acts", y.stop(0, 0), 30);
