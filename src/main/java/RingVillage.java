@@ -130,14 +130,15 @@ public final class RingVillage {
     }
 
     public int text(int sort, int at) {
+        int length = told.length;
+        told.length = 0; // a refused text takes the tape too
         told.fault = 0;
         told.place = NONE;
         int number = told.placeFor(sort, at);
         if (number == NONE) {
             return NO_SUCH;
         }
-        reader.readTape(told.tape, told.length, sort);
-        told.length = 0;
+        reader.readTape(told.tape, length, sort);
         if (reader.fault != 0) {
             told.fault = reader.fault;
             told.place = reader.faultPlace;

@@ -66,8 +66,9 @@ public final class ToldTest {
     private static void textsFindTheirPlace() {
         RingVillage x = new RingVillage();
         T.due("text in the place of none", Telling.tell(x, 0, 0, "people 3;"), -2);
-        T.due("no text is read: the tape is as it was", x.end(9), 9);
-        T.due("first village", x.text(0, NONE), 0);
+        T.due("no text is read, but the tape is taken", x.end(1), NONE);
+        T.due("first village", Telling.tell(x, 0, NONE, "people 3;"), 0);
+        T.due("the tape that was read is taken", x.end(1), NONE);
         T.due("no such sort", Telling.tell(x, 2, NONE, ""), -2);
         T.due("no such sort", Telling.tell(x, -1, NONE, ""), -2);
         T.due("second village", Telling.tell(x, 0, NONE, "people 5;"), 1);
@@ -91,8 +92,22 @@ public final class ToldTest {
         T.due("-2 leaves no fault", Telling.tell(x, 1, 3, "moon;"), -2);
         T.due("fault(0) behind -2", x.fault(0), 0);
         T.due("fault(1) behind -2", x.fault(1), NONE);
+        refusedTextsTakeTheTape(x);
         T.due("a place is made anew", Telling.tell(x, 0, 0, ""), 0);
         T.due("as at first", x.village(0, 0), 4);
+    }
+
+    /** Both villages and all three rows stand, so every one of these has no place. */
+    private static void refusedTextsTakeTheTape(RingVillage x) {
+        int[][] refused = {{0, NONE}, {0, 2}, {0, -2}, {1, NONE}, {1, 3}, {1, -2}, {2, NONE}, {2, 0}, {-1, NONE}, {-1, 0}};
+        for (int[] r : refused) {
+            String at = " (" + r[0] + ", " + r[1] + ")";
+            T.due("refused" + at, Telling.tell(x, r[0], r[1], "month;"), -2);
+            T.due("taken, though refused" + at, x.end(1), NONE);
+            T.due("empty behind it" + at, x.feed(0, 0, 0, 0, 0), 20);
+        }
+        T.due("a fault takes the tape too", Telling.tell(x, 1, 0, "moon;"), NONE);
+        T.due("taken, though with a fault", x.end(1), NONE);
     }
 
     private static void villagesAreRead() {
