@@ -243,6 +243,9 @@ public final class EdgeManyTest {
         T.asks(y, 3, "tight 0 NONE 0 1 0");
         T.asks(y, 0, "tight 0 NONE 0 0 1");
         T.asks(y, NONE, "tight 0 NONE 0 0 2", "tight 0 NONE 0 1 1");
+        // One more lets either be had: the one with more WORTH counts, whichever comes first.
+        T.asks(Telling.with("people 2;all 5;word 0 1 4;want 0 1 5 8;want 0 1 5 6;", ""), 8, "tight 0 NONE 0 1 0");
+        T.asks(Telling.with("people 2;all 5;word 0 1 4;want 0 1 5 6;want 0 1 5 8;", ""), 8, "tight 0 NONE 0 1 0");
     }
 
     private static void promise35TightAbove99() {
