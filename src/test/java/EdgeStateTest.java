@@ -380,6 +380,10 @@ public final class EdgeStateTest {
         RingVillage z = Telling.with("people 5;all 9;", "ring 3 9 0 1 2;owe 3 4 7;strike 0;");
         T.asks(z, 0, "state 0 0 1|2 10");
         T.asks(z, 3, "state 0 0 3 10");
+        // The last ring counts as the first one does: 2 takes 99 off, 5 and 6 take 70, 0 and 1 take 56.
+        RingVillage v = Telling.with("people 7;all 99;", "ring 1 9 0 1;".repeat(28) + "ring 33 9 2 3 4;owe 5 6 70;");
+        T.asks(v, 2, "state 0 0 29|30 10");
+        T.asks(v, 0, "state 0 0 28 10");
         // What was paid of a ring can't fall once more: 4, 5 and 6 take 7 off, 0 and 1 take 8.
         RingVillage w = Telling.with("people 7;all 9;", "ring 3 9 4 5 6;ring 2 9 4 5 6;pay 4 5 5;pay 5 6 3;owe 1 0 8;");
         T.asks(w, 4, "state 0 0 4 10");
