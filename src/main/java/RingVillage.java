@@ -1916,7 +1916,7 @@ public final class RingVillage {
 
         /** Room of one more helps only a set that lacks just one. */
         void markNear() {
-            gainedFrom = bestValue(0);
+            gainedFrom = values[bestSet(0)];
             for (int set = 0; set < sets; set++) {
                 near[set] = values[set] > gainedFrom && lacks(set) == 1;
             }

@@ -174,7 +174,7 @@ public final class LanguageTest {
                 if (!own && !superCall && !LIBRARY.contains(owner + "." + called.getSimpleName())) {
                     refuse(tree, "calls " + owner + "." + called.getSimpleName());
                 }
-                if (own && inside != null && !called.equals(inside)) {
+                if (inside != null && !called.equals(inside)) {
                     calls.get(inside).add(called);
                 }
             }
@@ -247,7 +247,7 @@ public final class LanguageTest {
             return super.visitMemberReference(tree, none);
         }
 
-        /** How deep calls go, a method that calls itself counted once. */
+        /** How deep calls go, the library's counted too, a method that calls itself counted once. */
         private int depth(Element method, Map<Element, Integer> known, List<Element> open) {
             if (known.containsKey(method)) {
                 return known.get(method);

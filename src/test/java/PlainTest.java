@@ -253,6 +253,7 @@ public final class PlainTest {
             int set = random.nextInt(sets);
             T.due(about + at + "had " + set, x.had(0, row, n, set, false), plain.had(rooms, set, 0));
             T.due(about + at + "had " + set + " with slack", x.had(0, row, n, set, true), plain.had(rooms, set, plain.slack));
+            due(at + "need " + set, x.need(0, row, n, set), plain.needByWays(set));
             if (small && plain.people < 4 || plain.people == 4 && turn < 3) {
                 int limit = plain.people < 4 ? 6 : 4;
                 int got = x.need(0, row, n, set);

@@ -649,6 +649,83 @@ final class PlainVillage {
         return limit;
     }
 
+    /** As need(), without a limit: what is due goes by the cheapest ways, each word that grows costing one. */
+    int needByWays(int set) {
+        int[][] rooms = rooms();
+        int source = people;
+        int sink = people + 1;
+        int[][] free = new int[people + 2][people + 2];
+        int[][] grown = new int[people + 2][people + 2];
+        int need = 0;
+        for (int w = 0; w < wants.size(); w++) {
+            if ((set >> w & 1) == 1) {
+                int[] want = wants.get(w);
+                int fits = Math.min(want[2], rooms[want[0]][want[1]]);
+                rooms[want[0]][want[1]] -= fits;
+                need += want[2] - fits;
+                free[source][want[1]] += want[2];
+                free[want[0]][sink] += want[2];
+            }
+        }
+        for (int a = 0; a < people; a++) {
+            System.arraycopy(rooms[a], 0, free[a], 0, people);
+        }
+        int cost = cheapestWay(free, grown, source, sink);
+        while (cost >= 0) {
+            need += cost;
+            cost = cheapestWay(free, grown, source, sink);
+        }
+        return need;
+    }
+
+    /** Sends one from the source to the sink, over free room or grown words: what it costs, -1 if nothing is left to send. */
+    private int cheapestWay(int[][] free, int[][] grown, int source, int sink) {
+        int nodes = people + 2;
+        int far = 1000;
+        int[] cost = new int[nodes];
+        int[] from = new int[nodes];
+        java.util.Arrays.fill(cost, far);
+        cost[source] = 0;
+        for (int round = 0; round < nodes; round++) {
+            for (int a = 0; a < nodes; a++) {
+                for (int b = 0; b < nodes; b++) {
+                    int step = stepCost(free, grown, a, b);
+                    if (a != b && step < far && cost[a] < far && cost[a] + step < cost[b]) {
+                        cost[b] = cost[a] + step;
+                        from[b] = a;
+                    }
+                }
+            }
+        }
+        if (cost[sink] >= far) {
+            return -1;
+        }
+        for (int b = sink; b != source; b = from[b]) {
+            int a = from[b];
+            int step = stepCost(free, grown, a, b);
+            if (step < 0) {
+                grown[b][a]--;
+            } else if (step == 0) {
+                free[a][b]--;
+                free[b][a]++;
+            } else {
+                grown[a][b]++;
+            }
+        }
+        return cost[sink];
+    }
+
+    /** A word that has grown for nothing is taken back first. */
+    private int stepCost(int[][] free, int[][] grown, int a, int b) {
+        if (grown[b][a] > 0) {
+            return -1;
+        }
+        if (free[a][b] > 0) {
+            return 0;
+        }
+        return a < people && b < people ? 1 : 1000;
+    }
+
     int least() {
         for (int n = 0; n <= 99; n++) {
             int[][] all = new int[people][people];
